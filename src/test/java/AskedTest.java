@@ -128,6 +128,19 @@ final class AskedTest {
         Check.due("p0 asks 1, p1 stays: it holds", 1, () -> ring.promise(3, 0));
         Check.due("6 more", 6, () -> ring.promise(3, 1));
         Check.due("nobody breaks it", -1, () -> ring.promise(3, 2));
+        // p1 is kind by 1: p0 gets 7 for 5; p0 is kind by 0: p1 gets 2 as before
+        WellQueue first = Wells.of("goods 2;ring;person age 1 gold 0 asks 0 worth 5 7;"
+                + "person age 1 gold 0 asks 0 worth 2 1;likes 0 1 -1;");
+        Check.due("more for the first place", 2, () -> first.promise(3, 1));
+        Check.due("it holds for both", 1, () -> first.promise(3, 0));
+        Check.due("p0 doesn't like p1", 0, () -> first.promise(3, 2));
+        // by the middle of three all would get 1 by two kind ones, which p1 alone doesn't want
+        WellQueue hurt = Wells.of("goods 2;ring;middle;person age 1 gold 0 asks 0 worth 0 4;"
+                + "person age 1 gold 0 asks 1 worth 3 1;person age 1 gold 0 asks 0 worth 0 9;");
+        Check.due("to p1 less falls then", 0, () -> hurt.promise(7, 0));
+        Check.due("to all of it more falls", 11, () -> hurt.promise(7, 1));
+        hurt.move(1, 0);
+        Check.due("nor if p1 stands first", 0, () -> hurt.promise(7, 0));
         WellQueue law = Wells.of(Wells.THREE + "law good>5;");
         Check.due("none is allowed any", 1, () -> law.promise(7, 0));
         Check.due("nothing more", 0, () -> law.promise(7, 1));

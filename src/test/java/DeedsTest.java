@@ -138,6 +138,11 @@ final class DeedsTest {
         Check.due("half of 20 and 9 is paid", 85, () -> z.person(2, 3));
         Check.due("to p1", 113, () -> z.person(1, 3));
         Check.due("each is a deed", 1, () -> z.count(10));
+        WellQueue endless = Wells.of("goods 2;ring;behind 2;person age 0 gold 99 asks 1 worth 0 0;"
+                + "person age 0 gold 99 asks 0 worth -5 -2;person age 0 gold 99 asks 1 worth -2 5;"
+                + "person age 0 gold 99 asks 0 worth -1 -1;");
+        Check.due("50 at most", 50, endless::trades);
+        Check.due("12 of them can be undone", 12, () -> endless.count(10));
     }
 
     private static void auction() {

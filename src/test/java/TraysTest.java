@@ -135,6 +135,15 @@ final class TraysTest {
         x.restore(0);
         Check.due("undo all of it", 0, () -> x.undo(12));
         Check.due("the eldest kept", 2, () -> x.count(4));
+        for (int i = 0; i < 12; i++) {
+            x.ring();
+        }
+        x.restore(0);
+        for (int day = 13; day >= 2; day--) {
+            int then = day;
+            x.undo(1);
+            Check.due("each deed of the image: " + day, then, () -> x.count(4));
+        }
     }
 
     private static void imagesKeepWells() {
