@@ -1763,10 +1763,11 @@ public final class WellQueue {
             Arrays.fill(next, 0L);
             for (int pair = 0; pair < VALUES * VALUES; pair++) {
                 if (counted[pair] != 0) {
+                    int two = pair / VALUES + NOBODY;
                     int one = pair % VALUES;
                     for (int value = 0; value < VALUES; value++) {
-                        int falls = Flow.fallOf(told.way, pair / VALUES + NOBODY, one + NOBODY, value + NOBODY);
-                        if ((open & 1 << value) != 0 && fits(place + 1, falls)) {
+                        if ((open & 1 << value) != 0
+                                && fits(place + 1, Flow.fallOf(told.way, two, one + NOBODY, value + NOBODY))) {
                             next[one * VALUES + value] += counted[pair];
                         }
                     }
