@@ -1,3 +1,5 @@
+import java.util.NoSuchElementException;
+
 /** Counts the answers that are not as due. */
 final class Check {
     private static int wrong = 0;
@@ -28,6 +30,13 @@ final class Check {
         }
     }
 
+    static void same(String what, String want, String got) {
+        asked++;
+        if (!got.equals(want)) {
+            fail(what + ":\n  got " + got + "\n  due " + want);
+        }
+    }
+
     static void refused(String what, Class<? extends RuntimeException> want, Deed deed) {
         asked++;
         try {
@@ -39,6 +48,18 @@ final class Check {
             return;
         }
         fail(what + " threw nothing, due is " + want.getName());
+    }
+
+    static void noSuch(String what, Deed deed) {
+        refused(what, NoSuchElementException.class, deed);
+    }
+
+    static void badState(String what, Deed deed) {
+        refused(what, IllegalStateException.class, deed);
+    }
+
+    static void badArgument(String what, Deed deed) {
+        refused(what, IllegalArgumentException.class, deed);
     }
 
     static void fail(String text) {
