@@ -917,7 +917,6 @@ public final class WellQueue {
 
     /** Lays what is ASKED by a PROMISE, and what FALLS then; trial.total keeps what FALLS now. */
     private void makePromise(int set) {
-        trial.take(state);
         for (int place = 0; place < state.standing; place++) {
             int p = state.queue[place];
             int kind = (set & 1 << p) != 0 ? kindAt(place, true) : NONE;

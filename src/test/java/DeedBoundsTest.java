@@ -247,6 +247,16 @@ final class DeedBoundsTest {
         WellQueue x = pair(9, 5, 9, 4);
         Check.due("18: one of them", 1, x::trades);
         Check.due("18: each a DEED", 1, () -> x.count(10));
+        WellQueue left = pair(9, 5, 9, 4);
+        left.leave(1);
+        Check.due("18: nobody stands behind any more", 0, left::trades);
+        Check.due("18: who left isn't asked", 18, () -> left.count(8));
+        WellQueue full = Wells.of("goods 1;" + "person age 1 gold 9 asks 0 worth 1;".repeat(8));
+        Check.due("18: a full QUEUE", 0, full::trades);
+        WellQueue lastTwo = Wells.of("goods 2;person age 1 gold 0 asks 1 worth -9 0;person age 1 gold 9 asks 0 worth 0 -5;"
+                + "person age 1 gold 9 asks 0 worth 0 0;");
+        Check.due("18: at the last place but one: no -5 FALLS to p1 then", 1, lastTwo::trades);
+        Check.due("18: those two", 2, () -> lastTwo.at(1));
         WellQueue endless = Wells.of("goods 2;ring;behind 2;person age 0 gold 99 asks 1 worth 0 0;"
                 + "person age 0 gold 99 asks 0 worth -5 -2;person age 0 gold 99 asks 1 worth -2 5;"
                 + "person age 0 gold 99 asks 0 worth -1 -1;");
@@ -509,6 +519,10 @@ final class DeedBoundsTest {
         why("the last PERSON and place", full, 177, 0);
         why("one place more", full, 178, 1);
         why("one PERSON more", full, 180, 1);
+        WellQueue left = Wells.of("goods 1;person age 1 gold 0 asks 0 worth 0;");
+        left.leave(0);
+        why("an empty QUEUE: no place", left, 100, 1);
+        why("an empty QUEUE: it isn't in it", left, 0, 2);
         WellQueue none = new WellQueue();
         why("a DAY of nobody", none, -1, 0);
         why("no PEOPLE", none, 0, 1);
@@ -619,13 +633,19 @@ final class DeedBoundsTest {
         int[] seeds = {0, 1, -1, 2, 12345, 65535, 65536, -65536, Integer.MAX_VALUE, Integer.MIN_VALUE,
             Integer.MAX_VALUE - 1, Integer.MIN_VALUE + 1, 1103515245, -1103515245, 777, -777};
         for (int from : seeds) {
-            for (int times : new int[] {1, 2, 30}) {
-                WellQueue x = Wells.of(Wells.THREE + "ruin 7;night;");
-                WellQueue y = Wells.of(Wells.THREE + "ruin 7;night;");
-                int made = new DeedBoundsTest().season(y, from, times);
-                Check.due("24: SEED " + from + ", " + times + " times", made, () -> x.season(from, times));
-                Check.same("24: by DRAWS of SEED " + from + ", " + times + " times", Looks.at(y), Looks.at(x));
-            }
+            seasonsOf(Wells.THREE + "ruin 7;night;", from);
+            seasonsOf("goods 1;ring;person age 1 gold 0 asks 0 worth 1;", from);
+            seasonsOf("goods 6;" + "person age 1 gold 0 asks 0 worth 1 2 3 4 5 -6;".repeat(8) + "ruin 2;", from);
+        }
+    }
+
+    private static void seasonsOf(String text, int from) {
+        for (int times : new int[] {1, 2, 30}) {
+            WellQueue x = Wells.of(text);
+            WellQueue y = Wells.of(text);
+            int made = new DeedBoundsTest().season(y, from, times);
+            Check.due("24: SEED " + from + ", " + times + " times", made, () -> x.season(from, times));
+            Check.same("24: by DRAWS of SEED " + from + ", " + times + " times", Looks.at(y), Looks.at(x));
         }
     }
 }

@@ -341,6 +341,9 @@ final class FallBoundsTest {
         x.leave(1);
         Check.badState("11: it isn't in the QUEUE", () -> x.liking(1));
         Check.due("11: nothing falls to who is out of it: -9 times -4", 36, () -> x.liking(0));
+        WellQueue ring = Wells.of(Wells.THREE + "ring;likes 1 0 3;likes 2 0 -2;");
+        Check.due("11: what FALLS to the first one: 2 and 3 times 5", 17, () -> ring.liking(1));
+        Check.due("11: the last one's: 1 less 2 times 5", -9, () -> ring.liking(2));
         x.leave(2);
         Check.due("11: one alone", 0, () -> x.liking(0));
         x.ring();

@@ -47,6 +47,9 @@ final class RestBoundsTest {
         WellQueue first = Wells.of(two(-5) + "ruin 5;");
         Check.due("37: in 1 DAY", 1, () -> first.ruined(1));
         Check.due("37: nothing is done", 2, () -> first.count(3));
+        WellQueue least = Wells.of(two(-1) + "ruin 1;");
+        Check.due("37: ruin 1", 1, () -> least.ruined(1));
+        Check.due("38: ruin 1", 1, least::firstRuined);
         WellQueue second = Wells.of(two(-5) + "ruin 6;");
         Check.due("37: in 2 DAYS", 2, () -> second.ruined(1));
         WellQueue last = Wells.of(two(-1) + "ruin 99;");
@@ -355,6 +358,21 @@ final class RestBoundsTest {
         x.restore(0);
         x.restore(2);
         Check.due("46: an IMAGE made again", 7, () -> x.count(4));
+        WellQueue full = Wells.of(Wells.THREE);
+        for (int i = 0; i < 14; i++) {
+            full.days(1);
+        }
+        full.image(0);
+        for (int i = 0; i < 3; i++) {
+            full.days(1);
+        }
+        full.restore(0);
+        for (int day = 13; day >= 2; day--) {
+            int then = day;
+            full.undo(1);
+            Check.due("47: each DEED of an IMAGE with forgotten ones, DAY " + day, then, () -> full.count(4));
+        }
+        Check.badArgument("47: no more of them", () -> full.undo(1));
         WellQueue nobody = new WellQueue();
         nobody.image(1);
         Wells.tell(nobody, Wells.THREE);

@@ -151,6 +151,11 @@ final class SearchBoundsTest {
         Check.due("27: as it stands, a DEED all the same", 7, x::standBest);
         Check.due("27: two DEEDS", 2, () -> x.count(10));
         x.leave(1);
+        WellQueue full = many(8);
+        full.move(7, 0);
+        Check.due("27: a full QUEUE", 7, full::standBest);
+        Check.due("27: its first place", 0, () -> full.at(0));
+        Check.due("27: its last place", 7, () -> full.at(7));
         Check.due("27: those in the QUEUE alone", 5, x::standBest);
         Check.due("27: p1 stays out of it", -1, () -> x.person(1, 0));
     }
@@ -183,6 +188,10 @@ final class SearchBoundsTest {
         Check.due("28: the first of the least", 0, () -> some.kindest(0, false));
         WellQueue below = Wells.of("goods 2;person age 1 gold 0 asks 0 worth 0 0;person age 1 gold 0 asks 0 worth -9 -5;");
         Check.due("28: the most is below 0", 1, () -> below.kindest(0, true));
+        WellQueue then = Wells.of(Wells.THREE + "law day=0;");
+        Check.due("28: ALLOWED on DAY 0", 1, () -> then.kindest(0, true));
+        then.days(1);
+        Check.due("28: NONE on DAY 1", -1, () -> then.kindest(0, true));
         WellQueue alone = Wells.of("goods 2;ring;person age 1 gold 0 asks 1 worth 1 9;");
         Check.due("28: nobody else", 0, () -> alone.kindest(0, true));
     }
@@ -221,6 +230,7 @@ final class SearchBoundsTest {
         WellQueue restless = Wells.of("goods 2;ring;person age 1 gold 0 asks 0 worth 1 0;"
                 + "person age 1 gold 0 asks 0 worth 1 0;likes 0 1 1;likes 1 0 1;");
         Check.due("29: what is greatest is ASKED", 1, () -> restless.settles(0));
+        Check.due("29: what FALLS then, not what might", 2, () -> restless.settles(2));
         WellQueue endless = Wells.of("goods 2;ring;middle;person age 0 gold 0 asks 0 worth 4 -3;"
                 + "person age 0 gold 0 asks 0 worth 7 1;person age 0 gold 0 asks 1 worth -8 9;"
                 + "person age 0 gold 0 asks 0 worth -7 6;likes 3 0 3;likes 1 2 6;likes 0 3 9;likes 0 2 -3;"
@@ -289,6 +299,11 @@ final class SearchBoundsTest {
                 + "person age 1 gold 0 asks 0 worth -5 -9;");
         Check.due("30: one that is not ALLOWED any: WATER as now", 0, () -> none.plot(1, 1, 0));
         Check.due("30: it ASKS as now", 1, () -> none.plot(1, 1, 10));
+        WellQueue mixed = Wells.of("goods 2;law age=1;person age 0 gold 0 asks 1 worth 0 0;"
+                + "person age 1 gold 0 asks 0 worth 0 0;person age 1 gold 0 asks 0 worth 5 -9;");
+        Check.due("30: the others ASK what they may", -9, () -> mixed.plot(3, 2, 0));
+        Check.due("30: p0 as now", 1, () -> mixed.plot(3, 2, 10));
+        Check.due("30: p1 what it may", 1, () -> mixed.plot(3, 2, 11));
         WellQueue water = Wells.of("goods 2;law good=0;person age 0 gold 0 asks 1 worth 0 0;"
                 + "person age 1 gold 0 asks 0 worth 5 9;");
         Check.due("30: who may ASK must: no WATER", 5, () -> water.plot(1, 1, 0));
@@ -466,6 +481,10 @@ final class SearchBoundsTest {
         WellQueue law = Wells.of(Wells.THREE + "law place=1;");
         Check.due("35: ASKED as ALLOWED now: p1 alone", 1, () -> law.worthOf(6));
         Check.due("35: ASKED as ALLOWED now: neither", 0, () -> law.worthOf(5));
+        WellQueue first = Wells.of("goods 2;person age 1 gold 0 asks 1 worth 0 0;person age 1 gold 0 asks 0 worth 3 8;");
+        Check.due("35: what the first one ASKS", 8, () -> first.worthOf(3));
+        first.ask(0, 0);
+        Check.due("35: what it ASKS then", 3, () -> first.worthOf(3));
         WellQueue two = Wells.of(Wells.THREE + "behind 2;");
         Check.due("35: two of them, behind 2", 0, () -> two.worthOf(5));
         WellQueue middle = Wells.of(Wells.THREE + "middle;");

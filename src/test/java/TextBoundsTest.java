@@ -10,6 +10,8 @@ final class TextBoundsTest {
         newObject();
         feed();
         well();
+        firstBytesAlone();
+        toldAnew();
         faultOf();
         textOf900();
         goods();
@@ -23,6 +25,7 @@ final class TextBoundsTest {
         blanks();
         signs();
         asLongAsTheyGo();
+        wordsAsTheyAre();
         firstAlongTheText();
         theEnd();
         withinOneAnother();
@@ -123,6 +126,59 @@ final class TextBoundsTest {
         Check.badArgument("3: none can be UNDONE", () -> x.undo(1));
         Check.due("3: no DAY", 0, () -> x.count(4));
         Check.due("3: no ring", 0, () -> x.count(6));
+    }
+
+    private static void cut(int kind, int place, int n, String taped) {
+        WellQueue x = new WellQueue();
+        Wells.feed(x, taped);
+        Check.due("3: " + n + " bytes of '" + taped + "'", -10 - kind, () -> x.well(n));
+        Check.due("3: its place of '" + taped + "'", place, () -> x.fault(1));
+    }
+
+    /** The bytes behind the first n are no part of the text, whatever they are. */
+    private static void firstBytesAlone() {
+        cut(2, 7, 7, "goods 12;");
+        cut(2, 7, 7, "goods 1;");
+        cut(2, 4, 4, "    goods 1;");
+        cut(2, 0, 4, "goods 1;");
+        cut(2, 8, 11, "goods 1;ring;");
+        cut(2, 12, 12, "goods 1;ring;");
+        cut(2, 16, 16, "goods 1;ruin 100;");
+        WellQueue x = new WellQueue();
+        Wells.feed(x, "goods 1;ruin 1234;");
+        Check.due("3: a number cut to three digits has no end", -12, () -> x.well(16));
+        Wells.feed(x, "goods 1;#");
+        Check.due("3: no FAULT behind the first n", 1, () -> x.well(8));
+        Wells.feed(x, "goods 1;;");
+        Check.due("3: nor a sign", 1, () -> x.well(8));
+        Wells.tell(x, "goods 1;ring;night;");
+        Check.due("3: nor what was on the tape before", -12, () -> Wells.tell(x, "goods"));
+    }
+
+    /** THE WELL is the latest text alone: nothing stays of the one before, told or refused. */
+    private static void toldAnew() {
+        String rich = "goods 3;person age 9 gold 9 asks 2 worth 9 8 7;person age 9 gold 9 asks 2 worth 9 8 7;"
+                + "person age 9 gold 9 asks 2 worth 9 8 7;" + "apart 0 1;".repeat(8)
+                + "likes 0 1 9;likes 1 0 -9;middle;ring;night;ruin 3;law good=2;";
+        String plain = "goods 2;person age 1 gold 1 asks 0 worth 1 2;person age 1 gold 1 asks 1 worth 3 4;";
+        for (String before : new String[] {rich, rich + "#", rich.substring(0, rich.length() - 1)}) {
+            WellQueue fresh = Wells.of(plain);
+            WellQueue x = new WellQueue();
+            Wells.tell(x, before);
+            x.days(2);
+            x.best(0);
+            Check.due("3: told anew", 3, () -> Wells.tell(x, plain));
+            Check.due("3: no BEST stays", 3, () -> x.best(0));
+            Check.same("3: nothing stays", Looks.at(fresh), Looks.at(x));
+            Check.due("3: no likes stay", 0, () -> x.likes(0, 1));
+            Check.due("3: no other likes stay", 0, () -> x.likes(1, 0));
+            Check.due("3: no apart stays", 2, () -> x.orders(Integer.MIN_VALUE));
+            Check.due("3: no law stays", 1, () -> x.allowed(1, 1) ? 1 : 0);
+            fresh.days(1);
+            x.days(1);
+            Check.same("3: no night stays", Looks.at(fresh), Looks.at(x));
+            Check.due("3: 8 of apart may be told again", 11, () -> Wells.tell(x, plain + "apart 0 1;".repeat(8)));
+        }
     }
 
     // ---- promise 4
@@ -328,6 +384,41 @@ final class TextBoundsTest {
         fine(2, "goods 1;law 999=000;");
         fault(2, "goods 1;law 1=@=1;");
         fault(2, "goods 1;law 1<@=1;");
+    }
+
+    /** With one letter changed, or one more, no word is a word: it can't stand there. */
+    private static void wordsAsTheyAre() {
+        String text = TWO + "apart 0 1;likes 0 1 1;behind 2;middle;ring;night;ruin 3;"
+                + "law not good=worth and age<gold or place>others or total=day;";
+        fine(11, text);
+        int start = 0;
+        for (int at = 0; at < text.length(); at++) {
+            char sign = text.charAt(at);
+            if (sign < 'a' || sign > 'z') {
+                start = at + 1;
+                continue;
+            }
+            for (char other : new char[] {'a', 'x', 'z'}) {
+                if (other != sign) {
+                    fault(2, text.substring(0, start) + "@" + text.substring(start, at) + other + text.substring(at + 1));
+                }
+            }
+            if (at + 1 < text.length() && !Character.isLowerCase(text.charAt(at + 1))) {
+                fault(2, text.substring(0, start) + "@" + text.substring(start, at + 1) + "z" + text.substring(at + 1));
+                fault(2, text.substring(0, start) + "@" + text.substring(start, at) + " " + text.substring(at + 1));
+            }
+        }
+        fault(2, "goods @six;");
+        fault(2, "goods 1;ruin @one;");
+        fault(2, TWO + "apart 0 @one;");
+        fault(2, TWO + "likes 0 @one 1;");
+        fault(2, "goods 1;law [@what=1];");
+        fault(2, "goods 1;law (@what)=1;");
+        fault(2, "goods 1;law 1=1 or @what=1;");
+        fault(2, "goods 1;law @ring=1;");
+        fault(2, "goods 1;@good 1;");
+        fault(2, "goods 1;@age 1;");
+        fault(2, "goods 1;@not;");
     }
 
     private static void firstAlongTheText() {
