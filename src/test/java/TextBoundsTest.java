@@ -430,6 +430,14 @@ final class TextBoundsTest {
         fault(2, "goods 1;law 1@; 1000");
         fault(2, "goods 1;person @7 1000;");
         fault(4, "goods 1;" + PERSON.repeat(8) + "@person 7");
+        // a LINE that ends too soon, and another FAULT behind it
+        String[] lines = {"goods", "person", "person age", "person age 1", "person age 1 gold", "person age 1 gold 0",
+            "person age 1 gold 0 asks", "person age 1 gold 0 asks 0", "person age 1 gold 0 asks 0 worth", "apart",
+            "apart 0", "likes", "likes 0", "likes 0 1", "likes 0 1 -", "behind", "ruin", "law", "law 1", "law 1=",
+            "law not", "law 1=1 or", "law 1=1 and", "law 1+", "law 1*", "law [1=1", "law (1"};
+        for (String line : lines) {
+            fault(2, line.equals("goods") ? "goods@;#" : TWO + line + "@;#");
+        }
         // a seventh ( that can't stand there anyway: the least kind
         fault(2, "goods 1;law ((((((1@(");
         fault(2, "goods 1;law ((((((@[");
