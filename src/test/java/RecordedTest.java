@@ -4,8 +4,8 @@ import java.nio.file.Files;
 import java.nio.file.Path;
 
 /**
- * The runs under src/test/runs, whose answers come from a reading of the document that shares no line with the class
- * nor with Model. A row is a call with its arguments, " = " and the answer; "tell" is a text that is fed and read,
+ * The runs under src/test/runs, whose answers come from a brute-force model that shares no code with the class or with
+ * Model. A row is a call with its arguments, " = " and the answer; "tell" is a text that is fed and read,
  * with a backslash and two hexadecimal digits for signs that can't be seen.
  */
 final class RecordedTest {
